@@ -619,12 +619,14 @@ public final class OneMourner {
         }
 
         private void becomes(Mourning other) {
-            for (int p = 0; p < MOST_MOURNERS; p++) {
-                mourners[p].becomes(other.mourners[p]);
-                list[p] = other.list[p];
-            }
             count = other.count;
+            for (int p = 0; p < count; p++) {
+                mourners[p].becomes(other.mourners[p]);
+            }
             listed = other.listed;
+            for (int place = 0; place < listed; place++) {
+                list[place] = other.list[place];
+            }
             day = other.day;
             island = other.island;
             seen.becomes(other.seen);
@@ -844,7 +846,7 @@ public final class OneMourner {
 
     /** Reads THE TEXT; as it looks at one byte at a time, and only goes on by one that fits, it stops at the FAULT. */
     private static final class Reader {
-        private static final String LETTERS = "pkvgwd", SIGNS = "<=>", DIGITS = "0123456789";
+        private static final String LETTERS = "pkvgwd", SIGNS = "<=>";
         private static final int END = -1;
 
         private final byte[] text = new byte[MOST_TEXT];
@@ -917,9 +919,17 @@ public final class OneMourner {
         }
 
         private int number() {
-            int n = oneOf(DIGITS);
-            boolean two = next() >= '0' && next() <= '9';
-            return two ? 10 * n + oneOf(DIGITS) : n;
+            int n = 0;
+            int digits = 0;
+            while (digits < 2 && next() >= '0' && next() <= '9') {
+                n = 10 * n + next() - '0';
+                at++;
+                digits++;
+            }
+            if (digits == 0) {
+                faulty = true;
+            }
+            return n;
         }
 
         private int oneOf(String signs) {
@@ -964,6 +974,7 @@ public final class OneMourner {
         private long together;
 
         private void walk(Mourning all, int q) {
+            weigh(all);
             start(all);
             leastHurt = NO_MOST;
             fairHurt = NO_MOST;
@@ -977,9 +988,8 @@ public final class OneMourner {
             }
         }
 
-        /** The first ROW, and what each HURTS where. */
+        /** The first ROW. */
         private void start(Mourning all) {
-            weigh(all);
             size = 0;
             for (int p = 0; p < all.count; p++) {
                 if (all.isLeft(p)) {
@@ -989,17 +999,18 @@ public final class OneMourner {
             }
         }
 
+        /** What each HURTS by each place. */
         private void weigh(Mourning all) {
             for (int p = 0; p < all.count; p++) {
-                int together = 0;
+                int hurt = 0;
                 int place = 0;
                 // at most every other DAY is LOST
                 for (int days = 0; days < 2 * MOST_MOURNERS && place < MOST_MOURNERS; days++) {
                     if (!all.isLost(all.day + days)) {
-                        hurts[MOST_MOURNERS * p + place] = together;
+                        hurts[MOST_MOURNERS * p + place] = hurt;
                         place++;
                     }
-                    together += all.painOf(all.mourners[p], days);
+                    hurt += all.painOf(all.mourners[p], days);
                 }
             }
         }
@@ -1087,6 +1098,7 @@ public final class OneMourner {
 
         /** DEAR, or by how much it is. */
         private int dear(Mourning all, boolean byHowMuch) {
+            weigh(all);
             start(all);
             int dear = NOBODY;
             int much = NOBODY;

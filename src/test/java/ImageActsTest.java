@@ -123,6 +123,9 @@ public final class ImageActsTest {
         Due.due("undo", x.undo(), 0);
         Due.due("nobody", x.of(0, 0), -1);
         Due.due("nobody on the list", x.count(2), 0);
+        Due.due("nobody hurts", x.told(3), 0);
+        Due.due("nobody is done", x.told(4), 0);
+        Due.due("nobody is looked at", x.best(0, 0), -5);
         Due.due("mourner", x.mourner(6, 0, 10), 0);
         long[] is = new long[8];
         for (int what = 0; what < 8; what++) {

@@ -52,6 +52,21 @@ public final class IslandsTest {
             Due.island(x, texts[t], -10 - faults[t]);
         }
         Due.due("no islands", x.count(1), 0);
+        faultsLeaveNothing();
+    }
+
+    /** What was read of texts that are none is not in the next one. */
+    private static void faultsLeaveNothing() {
+        OneMourner x = new OneMourner();
+        x.mourner(0, 0, 10);
+        String half = "ache 9 p=0;lost 2;ache 8 p=0|p=0|p=0|p=0|p=0|p=0|p=0|p=0|p=0|p=0|p=0|p=0|p=0|p=0|p=0;x";
+        for (int i = 0; i < 9; i++) {
+            Due.island(x, half, -10 - half.length() + 1);
+        }
+        Due.due("pain without an island", x.of(0, 7), 10);
+        Due.island(x, "ache 7 p=0;calm 1 p=1;ache 5 v=0", 0);
+        Due.due("pain by the one that is", x.of(0, 7), 22);
+        Due.due("it has no lost", x.told(1), 0);
     }
 
     private static void nesting() {
@@ -149,6 +164,10 @@ public final class IslandsTest {
         Due.due("!!yes", holds("!!" + yes, 0, 3, 50, 0, 0), 1);
         Due.due("yes&yes&no|yes", holds(yes + "&" + yes + "&" + no + "|" + yes, 0, 3, 50, 0, 0), 1);
         Due.due("no|no|no", holds(no + "|" + no + "|" + no, 0, 3, 50, 0, 0), 0);
+        Due.due("yes|no|no", holds(yes + "|" + no + "|" + no, 0, 3, 50, 0, 0), 1);
+        Due.due("no|yes|no", holds(no + "|" + yes + "|" + no, 0, 3, 50, 0, 0), 1);
+        Due.due("yes|no&no|no", holds(yes + "|" + no + "&" + no + "|" + no, 0, 3, 50, 0, 0), 1);
+        Due.due("no&yes&yes", holds(no + "&" + yes + "&" + yes, 0, 3, 50, 0, 0), 0);
         Due.due("no|no|yes", holds(no + "|" + no + "|" + yes, 0, 3, 50, 0, 0), 1);
         Due.due("yes&no|no&yes", holds(yes + "&" + no + "|" + no + "&" + yes, 0, 3, 50, 0, 0), 0);
     }

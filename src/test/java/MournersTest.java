@@ -142,6 +142,9 @@ public final class MournersTest {
         Due.due("none", x.count(2), 0);
         Due.due("no place", x.of(0, 6), -5);
         Due.due("again", x.list(3), 1);
+        Due.due("the first one twice", x.list(3), -3);
+        Due.due("another", x.list(2), 2);
+        Due.due("the second one twice", x.list(2), -3);
     }
 
     private static void swap() {
@@ -158,6 +161,8 @@ public final class MournersTest {
         Due.due("0's place", x.of(0, 6), 0);
         Due.due("swap again", x.swap(1, 3), 2);
         Due.due("1's place then", x.of(1, 6), 2);
+        Due.due("swap with the first", x.swap(1, 0), 0);
+        Due.due("swap back", x.swap(1, 0), 2);
         Due.due("both", x.swap(1, 1), -2);
         Due.due("both, off it", x.swap(2, 2), -2);
         Due.due("other off it", x.swap(1, 2), -3);

@@ -61,6 +61,15 @@ public final class PlansBooksTest {
         ends(x, "0 on the list", 199, 1);
         x.set(1, 2, 99999);
         ends(x, "hurt beyond 99999", 99999 + 199, 1);
+        x.plan(3, 0);
+        x.plan(2, 0);
+        x.plan(0, 0);
+        // 0 is left again, so it has this day as well, and 1 hurts a third time
+        ends(x, "0 is left again", 99999 + 199 + 101, 1);
+        x.list(-1);
+        // 0 hurts 10, 10, 10, and 20 on the last day
+        ends(x, "nobody on the list", 99999 + 10 + 99 + 10 + 10 + 100 + 20 + 101, 0);
+        x.list(0);
         Due.due("grief is as it was", x.of(1, 2), 85);
         Due.due("the day is as it was", x.told(0), 0);
         Due.due("nobody is done", x.told(4), 0);

@@ -33,10 +33,14 @@ public final class TapesTest {
         x.item(0, 2, 9);
         Due.due("nothing, whatever n", x.tape(0, -1, -99), 1);
         Due.due("nothing", x.item(0, 2, 1), -11);
+        Due.due("no first place", x.read(0, 0), OneMourner.NO);
         Due.due("no place", x.read(0, 2), OneMourner.NO);
         Due.due("nothing, n 61", x.tape(0, -1, 61), 1);
         Due.due("anew again", x.tape(0, 1, 3), 1);
         Due.due("all 0 again", x.read(0, 2), 0);
+        x.item(0, 0, 9);
+        x.tape(0, 1, 3);
+        Due.due("the first is 0 again", x.read(0, 0), 0);
     }
 
     private static void item(int sort, long v, long want) {

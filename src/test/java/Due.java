@@ -2,15 +2,23 @@
 final class Due {
     private static int asked = 0;
     private static int wrong = 0;
+    private static int sentences = 0;
+    private static String sentence = "";
 
     private Due() {
+    }
+
+    /** The sentence of the document that is tested from here on, and where it stands. */
+    static void says(String where, String words) {
+        sentences++;
+        sentence = where + ", \"" + words + "\": ";
     }
 
     static void due(String call, long got, long want) {
         asked++;
         if (got != want) {
             wrong++;
-            System.out.println(call + " answered " + got + ", due is " + want);
+            System.out.println(sentence + call + " answered " + got + ", due is " + want);
         }
     }
 
@@ -40,7 +48,8 @@ final class Due {
     }
 
     static void end() {
-        System.out.println(asked + " answers, " + wrong + " not as due");
+        System.out.println((sentences == 0 ? "" : sentences + " sentences, ") + asked + " answers, " + wrong
+            + " not as due");
         if (wrong != 0 || asked == 0) {
             System.exit(1);
         }
